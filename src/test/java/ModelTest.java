@@ -1,0 +1,4 @@
+final class ModelTest {
+    static void run() {
+    }
+}
