@@ -151,7 +151,7 @@ public final class RunDesk {
     }
 
     public int tight(int mat) {
-        return race.way.has(mat) ? foretelling.firstTight(race, race.guns, mat) : NONE;
+        return race.way.has(mat) ? foretelling.firstTightMinute(race, mat) : NONE;
     }
 
     public int plan(int tick, int most) {
@@ -851,23 +851,21 @@ public final class RunDesk {
         // the last GUN, and the slowest PACE over the longest WAY: 40,000 and 200,000 seconds
         private static final int MINUTES = 240000 / 60 + 1;
 
+        /** The seconds from the GUN to a MAT: a plan tries thousands of GUNS with the same ones. */
+        private final int[] seconds = new int[MOST_RUNNERS * MOST_MATS];
+        private final int[] pens = new int[MOST_RUNNERS];
+        private final int[] minutes = new int[MOST_RUNNERS];
         /** How many pass in each minute; all 0 between calls. */
         private final int[] passers = new int[MINUTES];
         private final Guns tried = new Guns();
 
-        private static int minuteOf(Race race, Guns guns, int runner, int mat) {
-            int gun = guns.tickOf(race.runners.factOf(runner, PEN));
-            if (gun == NONE) {
-                return NONE;
-            }
-            int pace = race.runners.factOf(runner, PACE);
-            return (gun + secondsCut(race.way.placeAt(mat), pace)) / 60;
-        }
-
         int passersIn(Race race, int mat, int minute) {
+            int place = race.way.placeAt(mat);
             int many = 0;
             for (int runner = 0; runner < race.runners.size(); runner++) {
-                if (minuteOf(race, race.guns, runner, mat) == minute) {
+                int gun = race.gunOf(runner);
+                int pace = race.runners.factOf(runner, PACE);
+                if (gun != NONE && (gun + secondsCut(place, pace)) / 60 == minute) {
                     many++;
                 }
             }
@@ -875,43 +873,63 @@ public final class RunDesk {
         }
 
         /** The first minute in which a MAT is TIGHT; NONE: in none. */
-        int firstTight(Race race, Guns guns, int mat) {
+        int firstTightMinute(Race race, int mat) {
+            prepare(race, mat);
+            return firstTight(race, race.guns, mat);
+        }
+
+        private void prepare(Race race, int mat) {
+            int place = race.way.placeAt(mat);
+            for (int runner = 0; runner < race.runners.size() && runner < MOST_RUNNERS; runner++) {
+                pens[runner] = race.runners.factOf(runner, PEN);
+                if (mat >= 0 && mat < MOST_MATS) {
+                    int pace = race.runners.factOf(runner, PACE);
+                    seconds[runner * MOST_MATS + mat] = secondsCut(place, pace);
+                }
+            }
+        }
+
+        /** As firstTightMinute, of a MAT that is prepared. */
+        private int firstTight(Race race, Guns guns, int mat) {
             int bearing = race.way.bearingAt(mat);
-            if (race.runners.size() <= bearing) {
+            int runners = race.runners.size();
+            if (mat < 0 || mat >= MOST_MATS || runners <= bearing) {
                 return NONE;
             }
             int first = NONE;
-            for (int runner = 0; runner < race.runners.size(); runner++) {
-                int minute = minuteOf(race, guns, runner, mat);
-                if (addPasser(minute) > bearing && (first == NONE || minute < first)) {
-                    first = minute;
+            for (int runner = 0; runner < runners && runner < MOST_RUNNERS; runner++) {
+                int gun = guns.tickOf(pens[runner]);
+                int minute = gun == NONE ? NONE : (gun + seconds[runner * MOST_MATS + mat]) / 60;
+                minutes[runner] = minute;
+                if (minute >= 0 && minute < MINUTES) {
+                    passers[minute]++;
+                    boolean isTight = passers[minute] > bearing;
+                    first = isTight && (first == NONE || minute < first) ? minute : first;
                 }
             }
-            for (int runner = 0; runner < race.runners.size(); runner++) {
-                forgetPassers(minuteOf(race, guns, runner, mat));
-            }
+            forgetPassers(runners);
             return first;
         }
 
-        private int addPasser(int minute) {
-            if (!within(minute, 0, MINUTES - 1)) {
-                return 0;
-            }
-            passers[minute]++;
-            return passers[minute];
-        }
-
-        private void forgetPassers(int minute) {
-            if (within(minute, 0, MINUTES - 1)) {
-                passers[minute] = 0;
+        private void forgetPassers(int runners) {
+            for (int runner = 0; runner < runners && runner < MOST_RUNNERS; runner++) {
+                int minute = minutes[runner];
+                if (minute >= 0 && minute < MINUTES) {
+                    passers[minute] = 0;
+                }
             }
         }
 
         /** The least step that leaves no MAT TIGHT, whose GUNS then stand; NONE, and they stay. */
         int planFrom(Race race, int tick, int most) {
+            for (int mat = 0; mat < race.way.size(); mat++) {
+                prepare(race, mat);
+            }
+            int tightMat = 0;
             for (int step = 0; step <= most; step++) {
                 tried.fireInSteps(tick, step);
-                if (!isTightSomewhere(race, tried)) {
+                tightMat = someTightMat(race, tightMat);
+                if (tightMat == NONE) {
                     race.guns.copyFrom(tried);
                     return step;
                 }
@@ -919,13 +937,17 @@ public final class RunDesk {
             return NONE;
         }
 
-        private boolean isTightSomewhere(Race race, Guns guns) {
+        /** A MAT that the tried GUNS make TIGHT, sought first where the step before had one. */
+        private int someTightMat(Race race, int before) {
+            if (firstTight(race, tried, before) != NONE) {
+                return before;
+            }
             for (int mat = 0; mat < race.way.size(); mat++) {
-                if (firstTight(race, guns, mat) != NONE) {
-                    return true;
+                if (firstTight(race, tried, mat) != NONE) {
+                    return mat;
                 }
             }
-            return false;
+            return NONE;
         }
     }
 

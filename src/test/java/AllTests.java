@@ -5,6 +5,7 @@ public final class AllTests {
 
     public static void main(String[] args) {
         FaceTest.run();
+        LanguageTest.run();
         SetUpTest.run();
         SightingTest.run();
         StandingTest.run();

@@ -11,6 +11,7 @@ final class ForetellingTest {
         farthest();
         tight();
         plan();
+        planAgainstCatchingUp();
         planWithAllPens();
         wrongPlans();
     }
@@ -56,6 +57,16 @@ final class ForetellingTest {
         x.gun(5, 40000);
         Check.due("second 240,000", x.foretold(1, 4000), 2);
         Check.due("TIGHT there", x.tight(1), 4000);
+        Check.due("TIGHT there, asked again", x.tight(1), 4000);
+        x.strike(0);
+        x.gun(5, 39999);
+        Check.due("TIGHT a minute before", x.tight(1), 3999);
+        x.way(5);
+        x.mat(100000, 1);
+        x.runner(0, 2000, 40, 0, 1, 5);
+        x.runner(0, 2000, 40, 0, 1, 4);
+        x.gun(5, 40000);
+        Check.due("one alone is borne", x.tight(1), -1);
         Check.due("not at MAT 0", x.tight(0), -1);
     }
 
@@ -105,6 +116,31 @@ final class ForetellingTest {
         y.runner(0, 300, 40, 0, 1, 3);
         Check.due("two of one PEN", y.plan(0, 3000), -1);
         Check.due("no GUN then", y.told(0, 7), -1);
+    }
+
+    private static void planAgainstCatchingUp() {
+        RunDesk x = new RunDesk();
+        x.way(1);
+        x.mat(1000, 1);
+        x.mat(1001, 1);
+        x.mat(2000, 2);
+        x.runner(0, 300, 40, 0, 1, 0);
+        x.runner(0, 240, 40, 0, 1, 1);
+        // up to 59 MAT 0 is TIGHT, then MAT 1 (300 and 240 + step), up to 119
+        Check.due("step", x.plan(0, 3000), 120);
+        Check.due("GUN", x.told(1, 7), 120);
+        Check.due("none less", x.plan(0, 119), -1);
+        Check.due("the GUN stays", x.told(1, 7), 120);
+        x.way(3);
+        x.mat(1000, 1);
+        x.runner(0, 300, 40, 0, 1, 0);
+        x.runner(0, 240, 40, 0, 1, 1);
+        Check.due("step 0: 300 and 240 at MAT 1", x.plan(0, 3000), 0);
+        x.runner(0, 330, 40, 0, 1, 1);
+        // 300, 240 + step and 330 + step at MAT 1: from 30 on each is alone in its minute
+        Check.due("step 30", x.plan(0, 3000), 30);
+        x.mat(2000, 3);
+        Check.due("a MAT that bears all", x.plan(0, 3000), 30);
     }
 
     private static void planWithAllPens() {

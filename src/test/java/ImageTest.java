@@ -8,6 +8,7 @@ final class ImageTest {
     static void run() {
         nothingKept();
         allIsKept();
+        everyMarkComesBack();
         theTextIsNot();
         keptInsteadOfBefore();
     }
@@ -96,6 +97,58 @@ final class ImageTest {
         x.drop(2, false);
         x.back();
         asKept(x);
+    }
+
+    /** Each mark is changed after the image by the very call that made it, and must come back. */
+    private static void everyMarkComesBack() {
+        RunDesk x = new RunDesk();
+        x.way(1);
+        x.mat(1000, 2);
+        for (int runner = 0; runner < 60; runner++) {
+            x.runner(0, 300, 40, 0, 1, runner == 0 ? 0 : 1);
+        }
+        x.gun(0, 60);
+        x.saw(0, 0, 70);
+        x.saw(0, 1, 700);
+        x.image();
+        x.way(60);
+        x.mat(900, 60);
+        for (int runner = 0; runner < 60; runner++) {
+            x.runner(1, 200, 30, 1, 2, 2);
+            x.saw(runner, 1, 500);
+            x.tear(runner, 0);
+            x.drop(runner, true);
+            x.wave(runner, true);
+            x.strike(59 - runner);
+        }
+        x.gun(0, 5);
+        x.gun(1, 5);
+        x.cut(0, 5);
+        x.cut(1, 5);
+        x.dead(0, true);
+        x.dead(1, true);
+        x.back();
+        Check.due("the last PLACE", x.count(6), 1000);
+        Check.due("no strikings", x.count(4), 0);
+        Check.due("the SPLITS", x.count(5), 2);
+        Check.due("IN", x.told(0, 6), 2);
+        Check.due("all the others before their START", x.state(0), 59);
+        Check.due("no GUN of PEN 1", x.told(59, 7), -1);
+        for (int runner = 0; runner < 60; runner++) {
+            Check.due("not TORN", x.told(runner, 13), -1);
+            Check.due("KIND", x.told(runner, 0), 0);
+            Check.yes("not STRUCK", x.strike(runner));
+            Check.due("sees at MAT 0", x.saw(runner, 0, 65), 1);
+            Check.due("sees at MAT 1", x.saw(runner, 1, 650), 1);
+        }
+        for (int runner = 59; runner >= 0; runner--) {
+            Check.due("the order of strikings", x.pardon(), runner);
+        }
+        x.cut(1, 100);
+        Check.due("none is waved through", x.state(5), 60);
+        x.gun(1, 60);
+        Check.due("MAT 0 bears one", x.tight(0), 1);
+        Check.due("MAT 1 bears two", x.tight(1), 6);
     }
 
     private static void theTextIsNot() {

@@ -157,6 +157,7 @@ final class ListTest {
         Check.due("five", x.team(1, 5), -1);
         Check.due("TEAM 2", x.team(2, 2), 720);
         Check.due("TEAM 3", x.team(3, 1), -1);
+        Check.no("no TEAM 10", x.runner(0, 300, 40, 0, 10, 0) >= 0);
         int[] teams = {-1, 0, 10, MIN, MAX};
         for (int team : teams) {
             Check.due("team(" + team + ", 1)", x.team(team, 1), -1);
@@ -171,11 +172,12 @@ final class ListTest {
         Check.write(x, "s<2;g");
         Check.due("the times of ORDER", x.team(1, 2), 810);
         RunDesk y = new RunDesk();
-        for (int i = 0; i < 12; i++) {
+        for (int i = 0; i < 13; i++) {
             enter(y, 0, 40, 0, i == 3 ? 0 : 9, 0, 0, 200 + i);
         }
         Check.write(y, "s=0;n");
         Check.due("ten of TEAM 9", y.team(9, 10), 2000 + 0 + 1 + 2 + 4 + 5 + 6 + 7 + 8 + 9 + 10);
+        Check.due("eleven are too many", y.team(9, 11), -1);
         Check.due("TEAM 0 is none", y.team(0, 1), -1);
     }
 
@@ -190,6 +192,8 @@ final class ListTest {
             Check.due("prizes of '" + text + "'", x.prizes(), -1);
             Check.due("team of '" + text + "'", x.team(1, 1), -1);
         }
+        Check.write(x, "s<2;n");
+        Check.due("a TEXT without FAULT after them", x.many(), 5);
     }
 
     private static void sixtyWithTies() {
@@ -205,5 +209,9 @@ final class ListTest {
             Check.due("place(" + runner + ")", x.place(runner), i / 2 * 2 + 1);
         }
         Check.due("prizes", x.prizes(), 4);
+        Check.write(x, "s=0;n;12");
+        Check.due("prizes of 12", x.prizes(), 12);
+        Check.write(x, "s=0;n;00013");
+        Check.due("prizes of 13", x.prizes(), 14);
     }
 }

@@ -31,8 +31,8 @@ final class SetUpTest {
         Check.due("new: pardon()", x.pardon(), -1);
         x.runner(0, 300, 40, 0, 1, 0);
         for (int pen = 0; pen < 6; pen++) {
-            Check.due("new: no GUN", x.runner(0, 300, 40, 0, 1, pen), pen + 1);
-            Check.due("new: no START", x.told(pen + 1, 7), -1);
+            Check.due("new: runner", x.runner(0, 300, 40, 0, 1, pen), pen + 1);
+            Check.due("new: no GUN, so no START", x.told(pen + 1, 7), -1);
         }
         Check.due("new: MAT 0 is not DEAD", x.saw(0, 0, 10), 1);
         Check.due("new: MAT 1 is not DEAD", x.saw(0, 1, 40000), 1);
@@ -101,9 +101,9 @@ final class SetUpTest {
         Check.due("way: not DROPPED", x.told(1, 6), 0);
         Check.due("way: not TORN", x.told(1, 13), -1);
         x.saw(1, 1, 80);
-        x.cut(1, 70);
+        x.cut(1, 50);
         Check.due("way: not waved through", x.told(1, 6), 5);
-        x.wave(0, false);
+        Check.due("way: nor is the first", x.told(0, 6), 5);
         Check.due("way: strike", x.strike(0) ? 1 : 0, 1);
     }
 

@@ -99,6 +99,14 @@ final class SightingTest {
         Check.due("no SPLIT at all", x.split(0, 0), -1);
         x.gun(0, 33);
         Check.due("the START is the GUN's", x.told(0, 7), 33);
+        RunDesk z = new RunDesk();
+        for (int mat = 2; mat < 12; mat++) {
+            z.mat(mat * 1000, 5);
+        }
+        z.runner(0, 300, 40, 0, 1, 0);
+        z.saw(0, 11, 5000);
+        Check.yes("tear(0, 11)", z.tear(0, 11));
+        Check.due("the twelfth is gone", z.split(0, 11), -1);
         RunDesk y = desk();
         for (int runner : NO_RUNNERS) {
             Check.no("tear(" + runner + ", 0)", y.tear(runner, 0));

@@ -41,6 +41,12 @@ final class StandingTest {
         Check.due("not the GUN's", x.told(0, 11), 0);
         x.gun(1, 60);
         Check.due("LATEST by the GUN", x.told(1, 8), 0);
+        for (int mat = 1; mat < 4; mat++) {
+            x.saw(1, mat, 5000);
+            Check.due("LATEST", x.told(1, 8), mat);
+        }
+        x.saw(1, 1, 9);
+        Check.due("LATEST is the highest number", x.told(1, 8), 3);
     }
 
     private static void states() {
