@@ -14,10 +14,23 @@ public final class AllTests {
         TextTest.run();
         ListTest.run();
         ImageTest.run();
+        edges();
         ModelTest.run();
         System.out.println(Check.checked() + " answers, " + Check.wrong() + " not as due");
         if (Check.wrong() != 0) {
             System.exit(1);
         }
+    }
+
+    private static void edges() {
+        TermsEdgesTest.run();
+        GuessEdgesTest.run();
+        ForetoldEdgesTest.run();
+        TextEdgesTest.run();
+        ListEdgesTest.run();
+        PromiseEdgesTest.run();
+        RefusedTest.run();
+        LongUseTest.run();
+        Doc.allAreNamed();
     }
 }
