@@ -296,7 +296,7 @@ public final class RunDesk {
         }
 
         boolean has(int mat) {
-            return mat >= 0 && mat < mats;
+            return mat >= 0 && mat < mats && mat < MOST_MATS;
         }
 
         /** NONE with one MAT alone: then there is no last MAT. */
@@ -427,18 +427,19 @@ public final class RunDesk {
         }
 
         boolean has(int runner) {
-            return runner >= 0 && runner < entered;
+            return runner >= 0 && runner < entered && runner < MOST_RUNNERS;
         }
 
         int factOf(int runner, int fact) {
-            if (runner < 0 || runner >= entered || fact < 0 || fact >= FACTS) {
+            // has() is not asked here: calls would go eight deep
+            if (runner < 0 || runner >= entered || runner >= MOST_RUNNERS || fact < 0 || fact >= FACTS) {
                 return NONE;
             }
             return facts[runner * FACTS + fact];
         }
 
         int splitAt(int runner, int mat) {
-            if (runner < 0 || runner >= entered || mat < 0 || mat >= MOST_MATS) {
+            if (!has(runner) || mat < 0 || mat >= MOST_MATS) {
                 return NONE;
             }
             return splits[runner * MOST_MATS + mat];
@@ -446,7 +447,7 @@ public final class RunDesk {
 
         /** Whether the tick is the SPLIT now: the least one stays. */
         boolean enterSplit(int runner, int mat, int tick) {
-            if (runner < 0 || runner >= entered || mat < 0 || mat >= MOST_MATS) {
+            if (!has(runner) || mat < 0 || mat >= MOST_MATS) {
                 return false;
             }
             int before = splits[runner * MOST_MATS + mat];
@@ -961,7 +962,7 @@ public final class RunDesk {
         }
 
         int byteAt(int i) {
-            return i >= 0 && i < length ? bytes[i] : NONE;
+            return i >= 0 && i < length && i < MOST_BYTES ? bytes[i] : NONE;
         }
 
         int append(int four) {

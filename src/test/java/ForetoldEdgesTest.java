@@ -21,6 +21,7 @@ final class ForetoldEdgesTest {
         gunsBecomeSo();
         gunsStay();
         planBounds();
+        tightAgainAtAnEarlierMat();
         planWithOneMat();
     }
 
@@ -293,6 +294,26 @@ final class ForetoldEdgesTest {
         Check.due("the GUN at 10,000", x.told(0, 7), 10000);
         Check.due("plan(0, 0)", x.plan(0, 0), 0);
         Check.due("the GUN at 0", x.told(0, 7), 0);
+    }
+
+    private static void tightAgainAtAnEarlierMat() {
+        Doc.says(20, "leaves no MAT TIGHT");
+        RunDesk x = new RunDesk();
+        x.way(1);
+        x.mat(1000, 1);
+        x.runner(0, 300, 40, 0, 1, 2);
+        x.runner(0, 290, 40, 0, 1, 3);
+        // from 50: step 4 makes MAT 1 alone TIGHT (358, 352), step 5 MAT 0 alone (60, 65)
+        Check.due("step 27", x.plan(50, 3000), 27);
+        Check.due("none up to 26", x.plan(50, 26), -1);
+        x.gun(2, 58);
+        x.gun(3, 62);
+        Check.due("step 4 at MAT 0", x.tight(0), -1);
+        Check.due("step 4 at MAT 1", x.tight(1), 5);
+        x.gun(2, 60);
+        x.gun(3, 65);
+        Check.due("step 5 at MAT 0", x.tight(0), 1);
+        Check.due("step 5 at MAT 1", x.tight(1), -1);
     }
 
     private static void planWithOneMat() {

@@ -79,6 +79,11 @@ final class ListEdgesTest {
             holds(x, "y>99999", 0);
             holds(x, "y=000" + f[1], 1);
         }
+        andBindsBeforeOr();
+        bracketsSideBySide();
+    }
+
+    private static void andBindsBeforeOr() {
         RunDesk y = desk("", 500);
         String[] signs = {"&", "|"};
         for (int bits = 0; bits < 32; bits++) {
@@ -102,6 +107,27 @@ final class ListEdgesTest {
                 y = desk("", 500);
             }
         }
+    }
+
+    private static void bracketsSideBySide() {
+        RunDesk x = desk("", 500);
+        for (int bits = 0; bits < 128; bits++) {
+            boolean[] is = new boolean[7];
+            for (int i = 0; i < 7; i++) {
+                is[i] = (bits & 1 << i) != 0;
+            }
+            boolean one = is[4] ? is[0] && is[1] : is[0] || is[1];
+            boolean two = is[5] ? is[2] && is[3] : is[2] || is[3];
+            holds(x, bracket(is[0], is[4], is[1]) + (is[6] ? "&" : "|") + bracket(is[2], is[5], is[3]),
+                (is[6] ? one && two : one || two) ? 1 : 0);
+            if (bits % 32 == 31) {
+                x = desk("", 500);
+            }
+        }
+    }
+
+    private static String bracket(boolean one, boolean and, boolean two) {
+        return "(s=" + (one ? 0 : 1) + (and ? "&" : "|") + "s=" + (two ? 0 : 1) + ")";
     }
 
     private static void onlyWithTheTimeOfOrder() {

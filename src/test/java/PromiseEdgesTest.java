@@ -1,3 +1,4 @@
+import java.util.Arrays;
 import java.util.NoSuchElementException;
 
 /** The boundary cases of promises 1 to 15, 31 and 32, sentence by sentence. */
@@ -40,6 +41,7 @@ final class PromiseEdgesTest {
         noSuchSplit();
         keptInsteadOfBefore();
         backStaysKept();
+        allIsAsItWasKept();
         nothingKept();
     }
 
@@ -624,6 +626,52 @@ final class PromiseEdgesTest {
             Check.due("the TEXT is as it is", x.count(3), 5 * (i + 1));
             Check.due("the striking can be taken back", x.pardon(), 1);
             x.tear(0, 0);
+        }
+    }
+
+    /** After back() the desk tells all that it told when it was kept, whatever came between. */
+    private static void allIsAsItWasKept() {
+        Doc.says(32, "All but the TEXT is as it was kept");
+        for (int kind = 0; kind < 4; kind++) {
+            RunDesk kept = RefusedTest.desk(kind);
+            kept.image();
+            int[] due = new Whole().of(kept);
+            for (int other = 0; other < 3; other++) {
+                RunDesk x = RefusedTest.desk(kind);
+                x.image();
+                changeAll(x, other);
+                x.back();
+                int differs = Arrays.mismatch(due, new Whole().of(x));
+                Check.due("desk " + kind + ", change " + other + ": answer that is not as kept", differs, -1);
+            }
+        }
+    }
+
+    private static void changeAll(RunDesk x, int other) {
+        if (other == 1) {
+            x.way(500);
+            for (int mat = 1; mat < 12; mat++) {
+                x.mat(mat * 7, 500);
+            }
+        }
+        if (other == 2) {
+            x.way(3);
+        }
+        for (int runner = 0; runner < 9; runner++) {
+            x.runner(2, 77, 7, 1, 7, 4);
+            x.saw(runner, 0, 1);
+            x.saw(runner, 3, 1);
+            x.tear(runner, 1 + runner % 3);
+            x.drop(runner, runner != 3);
+            x.wave(runner, runner != 4);
+            x.strike(runner);
+        }
+        for (int mat = 0; mat < 12; mat++) {
+            x.dead(mat, mat != 1);
+            x.cut(mat, mat);
+        }
+        for (int pen = 0; pen < 6; pen++) {
+            x.gun(pen, 3 + pen);
         }
     }
 

@@ -24,6 +24,7 @@ final class TextEdgesTest {
         highestFirst();
         zeroLeftOut();
         mostBytes();
+        everyByteCounts();
         longestTexts();
         firstBytesAlone();
         noSuchEnd();
@@ -35,6 +36,7 @@ final class TextEdgesTest {
         Check.feed(x, text);
         Check.due("bytes of '" + text + "'", x.count(3), text.length());
         Check.due("fault of '" + text + "'", x.fault(), want);
+        Check.due("fault of '" + text + "', asked again", x.fault(), want);
         if (want >= 0) {
             Check.due("many of '" + text + "'", x.many(), -1);
         }
@@ -136,6 +138,7 @@ final class TextEdgesTest {
         fault("s=1s=1;n", 3);
         fault("(s=1)s=1;n", 5);
         fault("s=1(s=1);n", 3);
+        fault("(s=1)2;n", 5);
         fault("(s=1)(s=1);n", 5);
     }
 
@@ -270,6 +273,19 @@ final class TextEdgesTest {
                 int due = there + more > 200 ? -1 : there + more;
                 Check.due(more + " more than " + there, x.feed(more == 0 ? 0 : ones[more - 1]), due);
                 Check.due("bytes then", x.count(3), due < 0 ? there : due);
+            }
+        }
+    }
+
+    private static void everyByteCounts() {
+        Doc.says(21, "0 is left out");
+        for (int one = 0; one < 256; one++) {
+            for (int shift = 0; shift < 32; shift += 8) {
+                RunDesk x = new RunDesk();
+                Check.feed(x, TWENTY.repeat(10));
+                Check.due("byte " + one + " behind 200", x.feed(one << shift), one == 0 ? 200 : -1);
+                x.end(199);
+                Check.due("byte " + one + " behind 199", x.feed(one << shift), one == 0 ? 199 : 200);
             }
         }
     }
