@@ -6,6 +6,7 @@ public final class AllTests {
     public static void main(String[] args) {
         FaceTest.run();
         LanguageTest.run();
+        ReadmeTest.run();
         SetUpTest.run();
         SightingTest.run();
         StandingTest.run();
